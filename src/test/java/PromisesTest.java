@@ -18,6 +18,7 @@ public final class PromisesTest {
         runPutAndTake();
         runChange();
         runLeftOutRows();
+        runLongPatterns();
         runSolutionOrder();
         runGraphKinds();
         runAllAndNamed();
@@ -295,8 +296,17 @@ public final class PromisesTest {
         due("8 TAKE", 1, x::run);
         due("8 the other stays", "1,1,2", () -> facts(x, 5));
         x.template(0, 1, 1, 2, false);
+        x.template(0, 1, 1, 2, false);
         x.run();
         due("8 an empty graph stays", 0, () -> x.many(5));
+        UpdateSteps y = new UpdateSteps();
+        fill(y, 0, 1, 100);
+        fill(y, 0, 2, 20);
+        y.step(TAKE, 0, 0);
+        y.template(0, 1, 0, 0, false);
+        y.template(0, 3, 0, 0, false);
+        due("8 TAKE out of a full graph", 1, y::run);
+        due("8 the first now", 1, () -> y.at(0, 0, 2));
     }
 
     private static void runChange() {
@@ -358,6 +368,35 @@ public final class PromisesTest {
         x.template(0, 1, 5, -2, false);
         due("8 rows that take away are left out, too", 1, x::run);
         due("8 a blank goes", "2,5,6", () -> facts(x, 1));
+    }
+
+    private static void runLongPatterns() {
+        UpdateSteps x = new UpdateSteps();
+        put(x, 0, 1, 5, 2);
+        put(x, 0, 2, 5, 3);
+        put(x, 0, 3, 6, 4);
+        put(x, 0, 4, 6, 1);
+        put(x, 0, 4, 6, 2);
+        x.step(CHANGE, 0, 0);
+        x.pattern(0, -1, 5, -2);
+        x.pattern(0, -2, -4, -3);
+        x.pattern(0, -3, 6, 4);
+        x.pattern(0, 4, 6, -1);
+        x.template(0, -1, -4, -3, true);
+        x.template(0, 4, 6, -1, false);
+        due("8 a ring of four rows", 2, x::run);
+        due("8 one solution", 1, () -> x.solutions(0));
+        due("8 work", 5 + 2 * 5 + 2 * 5 + 5, () -> x.told(4));
+        due("8 what came", true, () -> x.has(0, 1, 5, 3));
+        due("8 what went", false, () -> x.has(0, 4, 6, 1));
+        x.clear();
+        x.step(CHANGE, 0, 0);
+        x.pattern(0, -1, 5, -2);
+        x.step(CHANGE, 0, 0);
+        x.pattern(1, -1, 6, 4);
+        x.template(1, -1, 5, -2, false);
+        x.template(1, -1, 6, 4, false);
+        due("8 values are not those of an earlier step", 1, x::run);
     }
 
     private static void runSolutionOrder() {
@@ -658,30 +697,37 @@ public final class PromisesTest {
         UpdateSteps y = new UpdateSteps();
         fill(y, 0, 1, 49);
         fill(y, 0, 2, 51);
-        heavyStep(y);
+        heavyStep(y, 0);
         due("8 5000 work", 0, y::run);
         due("16 work", 5000, () -> y.told(4));
-        heavyStep(y);
+        heavyStep(y, 0);
         due("8 the limit is a step's", 0, y::run);
         due("16 work of all steps", 10000, () -> y.told(4));
         y.clear();
         fill(y, 0, 3, 1);
-        heavyStep(y);
+        heavyStep(y, 0);
         due("8 more than 5000 work", -6, y::run);
         due("16 no work", 0, () -> y.told(4));
         y.clear();
         fill(y, 0, 3, 10);
-        heavyStep(y);
+        heavyStep(y, 3);
         due("8 more than 5000 work earlier", -6, y::run);
-        due("15 those that were found by then", 46, () -> y.solutions(0));
+        due("15 with 5000 work one was found", 46, () -> y.solutions(0));
         due("9 it ended there", 0, y::fails);
+        y.clear();
+        heavyStep(y, 4);
+        due("8 the same work", -6, y::run);
+        due("15 with 5001 work one would be found", 45, () -> y.solutions(0));
     }
 
-    /** 49 facts fit the first row, one fits the second: with 100 facts 100 work and 49 times 100. */
-    private static void heavyStep(UpdateSteps x) {
+    /**
+     * 49 facts fit the first row, one the second: with 100 facts 100 work and 49 times 100; with 110 facts 111 work
+     * for each that fits the first row, so that 5000 work ends at the fourth fact of the 46th.
+     */
+    private static void heavyStep(UpdateSteps x, int object) {
         int step = x.step(CHANGE, 0, 6);
         x.pattern(step, 1, -1, -2);
-        x.pattern(step, 1, 0, 0);
+        x.pattern(step, 1, 0, object);
     }
 
     private static void fails() {

@@ -10,6 +10,7 @@ final class Check {
 
     private int asked = 0;
     private int wrong = 0;
+    private String sentence = "";
 
     static String answerOf(Call call) {
         try {
@@ -19,12 +20,17 @@ final class Check {
         }
     }
 
+    /** The sentence of the document that the answers from here on are held against. */
+    void says(String words) {
+        sentence = "\"" + words + "\": ";
+    }
+
     void due(String what, Object want, Call call) {
         String got = answerOf(call);
         asked++;
         if (!got.equals(String.valueOf(want))) {
             wrong++;
-            System.out.println(what + ": answered " + got + ", due is " + want);
+            System.out.println(sentence + what + ": answered " + got + ", due is " + want);
         }
     }
 

@@ -1,9 +1,5 @@
 /** Each promise of the document: ordinary inputs, the edges it names, wrong inputs. */
-public final class PromisesTest {
-    private static final int PUT = 0, TAKE = 1, CHANGE = 2, CLEAR = 3, MAKE = 4;
-    private static final int DROP = 5, COPY = 6, MOVE = 7, ADD = 8, READ = 9;
-    private static final int FAR = Integer.MAX_VALUE, LOW = Integer.MIN_VALUE;
-
+public final class PromisesTest extends Scene {
     private static final Check CHECK = new Check();
 
     public static void main(String[] args) {
@@ -47,46 +43,6 @@ public final class PromisesTest {
         CHECK.due(what, want, call);
     }
 
-    /** One step alone with one row that adds, run and cleared. */
-    private static void put(UpdateSteps x, int graph, int s, int p, int o) {
-        x.step(PUT, 0, graph);
-        x.template(0, s, p, o, true);
-        x.run();
-        x.clear();
-    }
-
-    /** Facts (subject, 0, 0), (subject, 0, 1) .. (subject, 1, 0) and so on, as many as asked. */
-    private static void fill(UpdateSteps x, int graph, int subject, int count) {
-        for (int i = 0; i < count; i += 6) {
-            x.step(PUT, 0, graph);
-            for (int j = i; j < i + 6 && j < count; j++) {
-                x.template(0, subject, j / 10, j % 10, true);
-            }
-            x.run();
-            x.clear();
-        }
-    }
-
-    private static String facts(UpdateSteps x, int graph) {
-        StringBuilder text = new StringBuilder();
-        for (int i = 0; i < x.many(graph); i++) {
-            text.append(i == 0 ? "" : " ");
-            text.append(x.at(graph, i, 0)).append(',').append(x.at(graph, i, 1)).append(',').append(x.at(graph, i, 2));
-        }
-        return text.toString();
-    }
-
-    private static String changes(UpdateSteps x) {
-        StringBuilder text = new StringBuilder();
-        for (int i = 0; i < x.told(3); i++) {
-            text.append(i == 0 ? "" : " ").append(x.changed(i, 4) == 1 ? '+' : '-');
-            for (int what = 0; what < 4; what++) {
-                text.append(what == 0 ? "" : ",").append(x.changed(i, what));
-            }
-        }
-        return text.toString();
-    }
-
     private static void newObject() {
         UpdateSteps x = new UpdateSteps();
         due("1 the default graph", 0, () -> x.many(0));
@@ -104,16 +60,16 @@ public final class PromisesTest {
             due("1 not torn", false, () -> x.torn(file, false));
         }
         due("1 fails", -1, x::fails);
-        due("1 no step", Check.OUT, () -> x.silent(0, true));
-        due("1 no change", Check.OUT, () -> x.changed(0, 0));
+        due("1 no step", OUT, () -> x.silent(0, true));
+        due("1 no change", OUT, () -> x.changed(0, 0));
         due("1 run", 0, x::run);
         due("1 clear", 0, x::clear);
     }
 
     private static void steps() {
         UpdateSteps x = new UpdateSteps();
-        due("2 kind -1", Check.ARGUMENT, () -> x.step(-1, 0, 0));
-        due("2 kind 10", Check.ARGUMENT, () -> x.step(10, 0, 0));
+        due("2 kind -1", ARGUMENT, () -> x.step(-1, 0, 0));
+        due("2 kind 10", ARGUMENT, () -> x.step(10, 0, 0));
         for (int i = 0; i <= 9; i++) {
             int kind = i;
             boolean counts = kind == CHANGE || kind >= COPY;
@@ -121,21 +77,21 @@ public final class PromisesTest {
             UpdateSteps y = new UpdateSteps();
             due("2 from " + high, 0, () -> y.step(kind, high, 1));
             due("2 from 0", 1, () -> y.step(kind, 0, 6));
-            due("2 from above, kind " + kind, counts ? Check.ARGUMENT : 2, () -> y.step(kind, high + 1, 1));
-            due("2 from below, kind " + kind, counts ? Check.ARGUMENT : 3, () -> y.step(kind, -1, 1));
+            due("2 from above, kind " + kind, counts ? ARGUMENT : 2, () -> y.step(kind, high + 1, 1));
+            due("2 from below, kind " + kind, counts ? ARGUMENT : 3, () -> y.step(kind, -1, 1));
             boolean takes = kind == CLEAR || kind == DROP;
             UpdateSteps z = new UpdateSteps();
-            due("2 to ALL, kind " + kind, takes ? 0 : Check.ARGUMENT, () -> z.step(kind, 0, UpdateSteps.ALL));
-            due("2 to NAMED, kind " + kind, takes ? 1 : Check.ARGUMENT, () -> z.step(kind, 0, UpdateSteps.NAMED));
-            due("2 to -3, kind " + kind, Check.ARGUMENT, () -> z.step(kind, 0, -3));
-            due("2 to 7, kind " + kind, Check.ARGUMENT, () -> z.step(kind, 0, 7));
-            due("2 to 0, kind " + kind, kind == MAKE ? Check.ARGUMENT : takes ? 2 : 0, () -> z.step(kind, 0, 0));
+            due("2 to ALL, kind " + kind, takes ? 0 : ARGUMENT, () -> z.step(kind, 0, ALL));
+            due("2 to NAMED, kind " + kind, takes ? 1 : ARGUMENT, () -> z.step(kind, 0, NAMED));
+            due("2 to -3, kind " + kind, ARGUMENT, () -> z.step(kind, 0, -3));
+            due("2 to 7, kind " + kind, ARGUMENT, () -> z.step(kind, 0, 7));
+            due("2 to 0, kind " + kind, kind == MAKE ? ARGUMENT : takes ? 2 : 0, () -> z.step(kind, 0, 0));
         }
         for (int i = 0; i < 12; i++) {
             due("2 number", i, () -> x.step(PUT, LOW, 0));
         }
-        due("2 a thirteenth", Check.STATE, () -> x.step(PUT, 0, 0));
-        due("2 the argument first", Check.ARGUMENT, () -> x.step(PUT, 0, 7));
+        due("2 a thirteenth", STATE, () -> x.step(PUT, 0, 0));
+        due("2 the argument first", ARGUMENT, () -> x.step(PUT, 0, 7));
         due("2 still twelve", 12, () -> x.told(0));
         due("2 a FROM that is no graph does not count", 0, x::run);
     }
@@ -147,40 +103,40 @@ public final class PromisesTest {
         due("3 on", false, () -> x.silent(0, true));
         due("3 still on", true, () -> x.silent(0, true));
         due("3 off", true, () -> x.silent(0, false));
-        due("3 below", Check.OUT, () -> x.silent(-1, true));
-        due("3 above", Check.OUT, () -> x.silent(1, true));
+        due("3 below", OUT, () -> x.silent(-1, true));
+        due("3 above", OUT, () -> x.silent(1, true));
         x.silent(0, true);
         x.clear();
-        due("3 cleared", Check.OUT, () -> x.silent(0, true));
+        due("3 cleared", OUT, () -> x.silent(0, true));
         x.step(MAKE, 0, 1);
         due("3 a new step", false, () -> x.silent(0, true));
     }
 
     private static void templates() {
         UpdateSteps x = new UpdateSteps();
-        due("4 no step", Check.OUT, () -> x.template(0, 1, 1, 1, true));
+        due("4 no step", OUT, () -> x.template(0, 1, 1, 1, true));
         for (int kind = 0; kind <= 9; kind++) {
             x.step(kind, 0, 1);
         }
         for (int i = CLEAR; i <= READ; i++) {
             int kind = i;
-            due("4 kind " + kind, Check.ARGUMENT, () -> x.template(kind, 1, 1, 1, true));
-            due("4 kind " + kind, Check.ARGUMENT, () -> x.template(kind, 1, 1, 1, false));
+            due("4 kind " + kind, ARGUMENT, () -> x.template(kind, 1, 1, 1, true));
+            due("4 kind " + kind, ARGUMENT, () -> x.template(kind, 1, 1, 1, false));
         }
-        due("4 PUT takes away", Check.ARGUMENT, () -> x.template(PUT, 1, 1, 1, false));
-        due("4 TAKE adds", Check.ARGUMENT, () -> x.template(TAKE, 1, 1, 1, true));
-        due("4 below", Check.OUT, () -> x.template(-1, 1, 1, 1, true));
-        due("4 above, with a wrong term", Check.OUT, () -> x.template(10, LOW, 1, 1, true));
+        due("4 PUT takes away", ARGUMENT, () -> x.template(PUT, 1, 1, 1, false));
+        due("4 TAKE adds", ARGUMENT, () -> x.template(TAKE, 1, 1, 1, true));
+        due("4 below", OUT, () -> x.template(-1, 1, 1, 1, true));
+        due("4 above, with a wrong term", OUT, () -> x.template(10, LOW, 1, 1, true));
         for (int i = 1; i <= 6; i++) {
             boolean adds = i % 2 == 0;
             due("4 PUT", i, () -> x.template(PUT, 1, 1, 1, true));
             due("4 TAKE", i, () -> x.template(TAKE, 1, 1, 1, false));
             due("4 CHANGE", i, () -> x.template(CHANGE, 1, 1, 1, adds));
         }
-        due("4 a seventh that adds", Check.STATE, () -> x.template(CHANGE, 1, 1, 1, true));
-        due("4 a seventh that takes away", Check.STATE, () -> x.template(CHANGE, 1, 1, 1, false));
-        due("4 the argument first", Check.ARGUMENT, () -> x.template(CHANGE, 100, 1, 1, true));
-        due("4 the kind first", Check.ARGUMENT, () -> x.template(PUT, 1, 1, 1, false));
+        due("4 a seventh that adds", STATE, () -> x.template(CHANGE, 1, 1, 1, true));
+        due("4 a seventh that takes away", STATE, () -> x.template(CHANGE, 1, 1, 1, false));
+        due("4 the argument first", ARGUMENT, () -> x.template(CHANGE, 100, 1, 1, true));
+        due("4 the kind first", ARGUMENT, () -> x.template(PUT, 1, 1, 1, false));
         x.clear();
         x.step(PUT, 0, 0);
         due("4 a new step has none", 1, () -> x.template(0, 5, 5, 5, true));
@@ -207,31 +163,31 @@ public final class PromisesTest {
         x.step(kind, 0, 0);
         int[] row = {1, 1, 1};
         row[place] = term;
-        due("4 kind " + kind + ", adds " + adds + ", term " + term + " at " + place, may ? 1 : Check.ARGUMENT,
+        due("4 kind " + kind + ", adds " + adds + ", term " + term + " at " + place, may ? 1 : ARGUMENT,
                 () -> x.template(0, row[0], row[1], row[2], adds));
         due("4 what was refused is not there", may ? 2 : 1, () -> x.template(0, 1, 1, 1, adds));
     }
 
     private static void patterns() {
         UpdateSteps x = new UpdateSteps();
-        due("5 no step", Check.OUT, () -> x.pattern(0, 1, 1, 1));
+        due("5 no step", OUT, () -> x.pattern(0, 1, 1, 1));
         for (int i = 0; i <= 9; i++) {
             int kind = i;
             x.step(kind, 0, 1);
-            due("5 kind " + kind, kind == CHANGE ? 1 : Check.ARGUMENT, () -> x.pattern(kind, -1, 0, 99));
+            due("5 kind " + kind, kind == CHANGE ? 1 : ARGUMENT, () -> x.pattern(kind, -1, 0, 99));
         }
-        due("5 below", Check.OUT, () -> x.pattern(-1, LOW, 1, 1));
-        due("5 above", Check.OUT, () -> x.pattern(10, 1, 1, 1));
+        due("5 below", OUT, () -> x.pattern(-1, LOW, 1, 1));
+        due("5 above", OUT, () -> x.pattern(10, 1, 1, 1));
         for (int wrong : new int[] {-5, -11, -14, 100, FAR, LOW}) {
-            due("5 subject " + wrong, Check.ARGUMENT, () -> x.pattern(CHANGE, wrong, 1, 1));
-            due("5 property " + wrong, Check.ARGUMENT, () -> x.pattern(CHANGE, 1, wrong, 1));
-            due("5 object " + wrong, Check.ARGUMENT, () -> x.pattern(CHANGE, 1, 1, wrong));
+            due("5 subject " + wrong, ARGUMENT, () -> x.pattern(CHANGE, wrong, 1, 1));
+            due("5 property " + wrong, ARGUMENT, () -> x.pattern(CHANGE, 1, wrong, 1));
+            due("5 object " + wrong, ARGUMENT, () -> x.pattern(CHANGE, 1, 1, wrong));
         }
         due("5 variables", 2, () -> x.pattern(CHANGE, -1, -4, -2));
         due("5 third", 3, () -> x.pattern(CHANGE, -4, -3, -1));
         due("5 fourth", 4, () -> x.pattern(CHANGE, 0, 0, 0));
-        due("5 a fifth", Check.STATE, () -> x.pattern(CHANGE, 1, 1, 1));
-        due("5 the argument first", Check.ARGUMENT, () -> x.pattern(CHANGE, 1, 1, 100));
+        due("5 a fifth", STATE, () -> x.pattern(CHANGE, 1, 1, 1));
+        due("5 the argument first", ARGUMENT, () -> x.pattern(CHANGE, 1, 1, 100));
         x.clear();
         x.step(CHANGE, 0, 0);
         due("5 a new step has none", 1, () -> x.pattern(0, 1, 1, 1));
@@ -239,18 +195,18 @@ public final class PromisesTest {
 
     private static void files() {
         UpdateSteps x = new UpdateSteps();
-        due("6 below", Check.OUT, () -> x.file(-1, LOW, 0, 0));
-        due("6 above", Check.OUT, () -> x.file(4, 0, 0, 0));
+        due("6 below", OUT, () -> x.file(-1, LOW, 0, 0));
+        due("6 above", OUT, () -> x.file(4, 0, 0, 0));
         for (int wrong : new int[] {-1, -11, 100, FAR, LOW}) {
-            due("6 subject " + wrong, Check.ARGUMENT, () -> x.file(3, wrong, 0, 0));
-            due("6 property " + wrong, Check.ARGUMENT, () -> x.file(3, 0, wrong, 0));
-            due("6 object " + wrong, Check.ARGUMENT, () -> x.file(3, 0, 0, wrong));
+            due("6 subject " + wrong, ARGUMENT, () -> x.file(3, wrong, 0, 0));
+            due("6 property " + wrong, ARGUMENT, () -> x.file(3, 0, wrong, 0));
+            due("6 object " + wrong, ARGUMENT, () -> x.file(3, 0, 0, wrong));
         }
         for (int i = 1; i <= 10; i++) {
             due("6 row", i, () -> x.file(3, 0, 99, 0));
         }
-        due("6 an eleventh", Check.STATE, () -> x.file(3, 0, 0, 0));
-        due("6 the argument first", Check.ARGUMENT, () -> x.file(3, 0, 0, 100));
+        due("6 an eleventh", STATE, () -> x.file(3, 0, 0, 0));
+        due("6 the argument first", ARGUMENT, () -> x.file(3, 0, 0, 100));
         due("6 another file", 1, () -> x.file(0, 0, 0, 0));
         x.clear();
         due("6 files stay when steps go", 2, () -> x.file(0, 0, 0, 0));
@@ -265,8 +221,8 @@ public final class PromisesTest {
         due("7 another", false, () -> x.torn(0, true));
         due("7 off", true, () -> x.torn(3, false));
         due("7 was off", false, () -> x.torn(3, false));
-        due("7 below", Check.OUT, () -> x.torn(-1, true));
-        due("7 above", Check.OUT, () -> x.torn(4, true));
+        due("7 below", OUT, () -> x.torn(-1, true));
+        due("7 above", OUT, () -> x.torn(4, true));
     }
 
     private static void runPutAndTake() {
@@ -450,7 +406,7 @@ public final class PromisesTest {
 
     private static void runAllAndNamed() {
         for (int kind : new int[] {CLEAR, DROP}) {
-            for (int to : new int[] {UpdateSteps.ALL, UpdateSteps.NAMED}) {
+            for (int to : new int[] {ALL, NAMED}) {
                 UpdateSteps x = new UpdateSteps();
                 x.step(kind, 0, to);
                 due("8 none is there", 0, x::run);
@@ -459,8 +415,8 @@ public final class PromisesTest {
                 put(x, 1, 1, 1, 1);
                 put(x, 6, 1, 1, 1);
                 x.step(kind, 0, to);
-                due("8 many at once", to == UpdateSteps.ALL ? 3 : 2, x::run);
-                due("8 the default one", to == UpdateSteps.ALL ? 0 : 1, () -> x.many(0));
+                due("8 many at once", to == ALL ? 3 : 2, x::run);
+                due("8 the default one", to == ALL ? 0 : 1, () -> x.many(0));
                 due("8 the first", kind == DROP ? -1 : 0, () -> x.many(1));
                 due("8 the last", kind == DROP ? -1 : 0, () -> x.many(6));
                 due("8 none is made", -1, () -> x.many(3));
@@ -539,7 +495,7 @@ public final class PromisesTest {
         x.step(PUT, 0, 2);
         x.template(0, -11, 1, -12, true);
         x.step(MOVE, 1, 3);
-        x.step(DROP, 0, UpdateSteps.ALL);
+        x.step(DROP, 0, ALL);
         x.step(CLEAR, 0, 6);
         due("8 the fourth step can't be done", -3, x::run);
         due("8 blanks as before", 1, () -> x.told(2));
@@ -671,7 +627,7 @@ public final class PromisesTest {
         x.silent(0, true);
         due("8 silent or not", -5, x::run);
         x.clear();
-        x.step(DROP, 0, UpdateSteps.ALL);
+        x.step(DROP, 0, ALL);
         x.step(PUT, 0, 1);
         x.template(1, 1, 1, -11, true);
         due("8 numbers do not come back", -5, x::run);
@@ -763,7 +719,7 @@ public final class PromisesTest {
         due("10 none then", 0, () -> x.told(0));
         due("10 facts stay", 1, () -> x.told(1));
         due("10 work is told", 1, () -> x.told(4));
-        due("10 no solutions", Check.OUT, () -> x.solutions(0));
+        due("10 no solutions", OUT, () -> x.solutions(0));
         x.step(CHANGE, 0, 0);
         due("10 a new step has none", -1, () -> x.solutions(0));
         due("10 nor rows", 1, () -> x.pattern(0, 1, 1, 1));
@@ -774,8 +730,8 @@ public final class PromisesTest {
 
     private static void many() {
         UpdateSteps x = new UpdateSteps();
-        due("11 below", Check.OUT, () -> x.many(-1));
-        due("11 above", Check.OUT, () -> x.many(7));
+        due("11 below", OUT, () -> x.many(-1));
+        due("11 above", OUT, () -> x.many(7));
         put(x, 6, 1, 1, 1);
         put(x, 6, 1, 1, 1);
         put(x, 6, 1, 2, 1);
@@ -791,13 +747,13 @@ public final class PromisesTest {
         put(x, 0, 0, 99, -11);
         put(x, 0, 0, 5, 99);
         due("12 by subject, property, object", "0,5,99 0,99,5 0,99,101 99,0,0 100,99,99", () -> facts(x, 0));
-        due("12 graph below", Check.OUT, () -> x.at(-1, 0, 0));
-        due("12 graph above", Check.OUT, () -> x.at(7, 0, 3));
-        due("12 graph not there", Check.OUT, () -> x.at(1, 0, 0));
-        due("12 fact below", Check.OUT, () -> x.at(0, -1, 3));
-        due("12 fact above", Check.OUT, () -> x.at(0, 5, 3));
-        due("12 what below", Check.ARGUMENT, () -> x.at(0, 0, -1));
-        due("12 what above", Check.ARGUMENT, () -> x.at(0, 4, 3));
+        due("12 graph below", OUT, () -> x.at(-1, 0, 0));
+        due("12 graph above", OUT, () -> x.at(7, 0, 3));
+        due("12 graph not there", OUT, () -> x.at(1, 0, 0));
+        due("12 fact below", OUT, () -> x.at(0, -1, 3));
+        due("12 fact above", OUT, () -> x.at(0, 5, 3));
+        due("12 what below", ARGUMENT, () -> x.at(0, 0, -1));
+        due("12 what above", ARGUMENT, () -> x.at(0, 4, 3));
     }
 
     private static void has() {
@@ -819,23 +775,23 @@ public final class PromisesTest {
         due("13 carried over", false, () -> x.has(0, 1, 1, 3 + 256));
         due("13 carried back", false, () -> x.has(0, 1, 3, 3 - 256));
         due("13 negative", false, () -> x.has(0, -1, -1, -1));
-        due("13 graph below", Check.OUT, () -> x.has(-1, 1, 2, 3));
-        due("13 graph above", Check.OUT, () -> x.has(7, 1, 2, 3));
+        due("13 graph below", OUT, () -> x.has(-1, 1, 2, 3));
+        due("13 graph above", OUT, () -> x.has(7, 1, 2, 3));
     }
 
     private static void changed() {
         UpdateSteps x = new UpdateSteps();
-        due("14 no run", Check.OUT, () -> x.changed(0, 0));
+        due("14 no run", OUT, () -> x.changed(0, 0));
         put(x, 4, 1, 2, 3);
         due("14 graph", 4, () -> x.changed(0, 0));
         due("14 subject", 1, () -> x.changed(0, 1));
         due("14 property", 2, () -> x.changed(0, 2));
         due("14 object", 3, () -> x.changed(0, 3));
         due("14 came", 1, () -> x.changed(0, 4));
-        due("14 what below", Check.ARGUMENT, () -> x.changed(0, -1));
-        due("14 what above", Check.ARGUMENT, () -> x.changed(0, 5));
-        due("14 change below", Check.OUT, () -> x.changed(-1, 5));
-        due("14 change above", Check.OUT, () -> x.changed(1, 5));
+        due("14 what below", ARGUMENT, () -> x.changed(0, -1));
+        due("14 what above", ARGUMENT, () -> x.changed(0, 5));
+        due("14 change below", OUT, () -> x.changed(-1, 5));
+        due("14 change above", OUT, () -> x.changed(1, 5));
         x.step(MAKE, 0, 4);
         x.run();
         due("14 a run that ended leaves them", "+4,1,2,3", () -> changes(x));
@@ -879,7 +835,7 @@ public final class PromisesTest {
 
     private static void solutions() {
         UpdateSteps x = new UpdateSteps();
-        due("15 no step", Check.OUT, () -> x.solutions(0));
+        due("15 no step", OUT, () -> x.solutions(0));
         x.step(CHANGE, 5, 0);
         x.step(CHANGE, 5, 0);
         x.pattern(1, -1, -2, -3);
@@ -896,8 +852,8 @@ public final class PromisesTest {
         due("15 before it ended", 1, () -> x.solutions(3));
         due("15 where it ended", -1, () -> x.solutions(4));
         due("15 it did not come there", -1, () -> x.solutions(5));
-        due("15 below", Check.OUT, () -> x.solutions(-1));
-        due("15 above", Check.OUT, () -> x.solutions(6));
+        due("15 below", OUT, () -> x.solutions(-1));
+        due("15 above", OUT, () -> x.solutions(6));
         x.silent(4, true);
         x.run();
         due("15 now it did", 1, () -> x.solutions(5));
@@ -930,8 +886,8 @@ public final class PromisesTest {
 
     private static void told() {
         UpdateSteps x = new UpdateSteps();
-        due("16 below", Check.ARGUMENT, () -> x.told(-1));
-        due("16 above", Check.ARGUMENT, () -> x.told(5));
+        due("16 below", ARGUMENT, () -> x.told(-1));
+        due("16 above", ARGUMENT, () -> x.told(5));
         put(x, 1, -11, 1, 2);
         put(x, 2, 3, 1, 2);
         x.step(CHANGE, 2, 0);

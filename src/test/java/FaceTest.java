@@ -38,7 +38,6 @@ public final class FaceTest {
         List<String> methods = new ArrayList<>(Arrays.asList(METHODS));
         Collections.sort(methods);
         check.due("methods", methods, FaceTest::methods);
-        check.due("static fields that may change", List.of(), FaceTest::changingStatics);
         check.due("private methods with a public one's name", List.of(), FaceTest::sharedNames);
         check.end("FaceTest");
     }
@@ -91,18 +90,6 @@ public final class FaceTest {
         List<Class<?>> all = new ArrayList<>(Arrays.asList(UpdateSteps.class.getDeclaredClasses()));
         all.add(UpdateSteps.class);
         return all;
-    }
-
-    private static List<String> changingStatics() {
-        List<String> names = new ArrayList<>();
-        for (Class<?> type : allClasses()) {
-            for (Field field : type.getDeclaredFields()) {
-                if (Modifier.isStatic(field.getModifiers()) && !Modifier.isFinal(field.getModifiers())) {
-                    names.add(field.toString());
-                }
-            }
-        }
-        return names;
     }
 
     private static List<String> sharedNames() {
